@@ -301,11 +301,19 @@ public final class CellProjection {
         return Math.abs(b[line]) * xBelow;
     }
 
+    /** Exactly 1, 0 or -1, which the library does not promise of its compare. */
+    private static int signOf(long number) {
+        if (number == 0) {
+            return 0;
+        }
+        return number > 0 ? 1 : -1;
+    }
+
     private int signIn(int strip, int place, int line) {
         if (b[line] == 0) {
-            return Long.compare(a[line] * sampleAbove[strip] + c[line] * sampleBelow[strip], 0);
+            return signOf(a[line] * sampleAbove[strip] + c[line] * sampleBelow[strip]);
         }
-        int side = Integer.compare(place, places[strip][line]);
+        int side = signOf(place - places[strip][line]);
         return b[line] > 0 ? side : -side;
     }
 
@@ -333,8 +341,8 @@ public final class CellProjection {
      */
     private boolean reaches(int strip, int place, int cutStrip, int cutPlace) {
         for (int k = 0; k < lineCount; k++) {
-            int side = Integer.compare(place, places[strip][k]);
-            int cutSide = Integer.compare(cutPlace, places[cutStrip][k]);
+            int side = signOf(place - places[strip][k]);
+            int cutSide = signOf(cutPlace - places[cutStrip][k]);
             if (cutSide != 0 && cutSide != side) {
                 return false;
             }
