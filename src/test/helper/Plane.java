@@ -181,5 +181,9 @@ final class Plane {
         for (int k = 0; k < 2 * lines; k++) {
             text.append(' ').append(find(1 << k)).append(' ').append(find(3 << k)).append(' ').append(find(5 << k));
         }
+        // Many that ask for all lines at once, so that some are found nowhere.
+        for (int k = 0; k < 30; k++) {
+            text.append(' ').append(find(k * 0x9E3779B9));
+        }
     }
 }

@@ -263,6 +263,34 @@ public final class AskSentencesTest extends Checks {
         dueFind(of(1, 0, 0, 1, 0, 1), 0b1111, -1);
         dueFind(of(1, 1, 0, 1, -1, 0, 0, 1, -1), 0b111111, -1);
         dueFind(of(1, 1, 0, 1, -1, 0, 0, 1, -1), 0b101111, 20);
+        // With the most strips there can be, no point is on three of the lines.
+        Plane most = of(-4, 5, 6, 6, 1, -2, -5, -1, 6, 1, -1, 4, 0, 2, -5, 1, 1, 0);
+        for (int one = 0; one < 6; one++) {
+            for (int other = 0; other < one; other++) {
+                for (int third = 0; third < other; third++) {
+                    dueFind(most, 3 << 2 * one | 3 << 2 * other | 3 << 2 * third, -1);
+                }
+            }
+        }
+        dueFind(most, -1, -1);
+    }
+
+    /** Promise 12: "-1 if there is none", also where there were CELLS with such SIGNS before a LINE went. */
+    private static void findNoneAnyMore() {
+        sentence("Promise 12: \"-1 if there is none.\", behind a drop:");
+        Plane levels = of(1, 0, 0, 1, 1, 0, 0, 1, 0, 0, 1, -1);
+        dueFind(levels, 0b00111111, 20);
+        levels.drop(0);
+        levels.drop(0);
+        for (int signs : new int[] {0b1111, 0b0110, 0b0111, 0b1110}) {
+            dueFind(levels, signs, -1);
+        }
+        Plane uprights = of(1, 1, 0, 1, -1, 0, 1, 0, 0, 1, 0, 1);
+        uprights.drop(1);
+        uprights.drop(0);
+        for (int signs : new int[] {0b1111, 0b1001, 0b1011, 0b1101}) {
+            dueFind(uprights, signs, -1);
+        }
     }
 
     /** Terms: TOUCH "(or is one)": a CELL has its own points. */
@@ -366,6 +394,7 @@ public final class AskSentencesTest extends Checks {
         bitsBeyondLines();
         findOutermostInts();
         findNone();
+        findNoneAnyMore();
         touchesItself();
         touchesTheNext();
         touchesAtACut();
