@@ -198,7 +198,7 @@ public final class AskSentencesTest extends Checks {
         dueFind(three, 0b000110, 6);
         dueFind(three, 0b110000, 3);
         dueFind(three, 0b001111, 20);
-        dueFind(three, 0b111100, 9 + 1);
+        dueFind(three, 0b111100, 10);
         dueFind(three, 0b110011, 34);
     }
 
