@@ -57,7 +57,7 @@ abstract class Checks {
         }
     }
 
-    /** The call throws, and behind it an object answers all that one answers to which it was never made. */
+    /** The call throws, and behind it the object's picture is that of one to which the call was never made. */
     static void refused(Plane plane, String call, ToLongFunction<CellProjection> made, Class<?> want) {
         Plane asked = plane.twin();
         dueThrow(call, () -> asked.make(made), want);

@@ -119,7 +119,10 @@ final class Plane {
         return next().lines();
     }
 
-    /** All that it answers, as one text; asked for once, until a call comes that could change it. */
+    /**
+     * What it answers, as one text: all of lines, cuts, curves, cells, samples and signs; for touch the cells that
+     * are near in number; some points and some signs to find. Kept until a call comes that could change it.
+     */
     String picture() {
         if (picture == null) {
             picture = newPicture();
