@@ -67,10 +67,16 @@ public final class FaceTest {
 
     public static void main(String[] args) {
         int how = CellProjection.class.getModifiers();
-        due("public final class", Modifier.isPublic(how) && Modifier.isFinal(how));
+        due("public final class", how == (Modifier.PUBLIC | Modifier.FINAL));
+        due("a class and nothing else", !CellProjection.class.isRecord() && !CellProjection.class.isEnum()
+                && CellProjection.class.getTypeParameters().length == 0);
+        due("extends nothing", CellProjection.class.getSuperclass() == Object.class);
+        due("implements nothing", CellProjection.class.getInterfaces().length == 0);
+        due("without a package", CellProjection.class.getPackageName().isEmpty());
         Constructor<?>[] constructors = CellProjection.class.getDeclaredConstructors();
         due("one constructor", constructors.length == 1 && constructors[0].getParameterCount() == 0
-                && Modifier.isPublic(constructors[0].getModifiers()));
+                && Modifier.isPublic(constructors[0].getModifiers())
+                && constructors[0].getExceptionTypes().length == 0);
         lookAtMethods();
         for (Field field : CellProjection.class.getDeclaredFields()) {
             due("private " + field, Modifier.isPrivate(field.getModifiers()));

@@ -169,9 +169,47 @@ public final class OracleTest extends Checks {
         compareCells(x, lines, cells, signs);
         comparePoints(x, lines, cuts, cells, signs);
         compareFinds(x, lines, signs);
+        compareRefusals(x, lines, cuts.size(), cells.size());
         if (allPairs) {
             compareTouches(x, lines, signs);
         }
+    }
+
+    /** The first numbers on both sides that are none, and one farther away. */
+    private static int[] outsideOf(int count) {
+        return new int[] {-1, count, number(0, 1) == 0 ? number(Integer.MIN_VALUE / 2, -2) : count + number(1, 1000)};
+    }
+
+    private static void compareRefusals(Plane x, List<Line> lines, int cuts, int cells) {
+        int none = number(0, 1) == 0 ? number(-1000, -1) : number(3, 1000);
+        for (int n : outsideOf(cuts)) {
+            dueThrow(lines + ": cut(" + n + ", " + none + ")", () -> x.cut(n, none), INDEX);
+            dueThrow(lines + ": cut(" + n + ", 0)", () -> x.cut(n, 0), INDEX);
+        }
+        for (int n : outsideOf(2 * cuts + 1)) {
+            dueThrow(lines + ": curves(" + n + ")", () -> x.curves(n), INDEX);
+        }
+        for (int n : outsideOf(cells)) {
+            dueThrow(lines + ": cell(" + n + ", 0)", () -> x.cell(n, 0), INDEX);
+            dueThrow(lines + ": cell(" + n + ", " + none + ")", () -> x.cell(n, none), INDEX);
+            dueThrow(lines + ": sample(" + n + ", 1, 1)", () -> x.sample(n, 1, 1), INDEX);
+            dueThrow(lines + ": sample(" + n + ", " + none + ", 0)", () -> x.sample(n, none, 0), INDEX);
+            dueThrow(lines + ": sign(" + n + ", 0)", () -> x.sign(n, 0), INDEX);
+            dueThrow(lines + ": touch(" + n + ", 0)", () -> one(x.touch(n, 0)), INDEX);
+            dueThrow(lines + ": touch(0, " + n + ")", () -> one(x.touch(0, n)), INDEX);
+        }
+        for (int n : outsideOf(lines.size())) {
+            dueThrow(lines + ": sign(0, " + n + ")", () -> x.sign(0, n), INDEX);
+        }
+        int cell = number(0, cells - 1);
+        dueThrow(lines + ": cell(" + cell + ", " + none + ")", () -> x.cell(cell, none), ARGUMENT);
+        dueThrow(lines + ": sample(" + cell + ", " + none + ", 0)", () -> x.sample(cell, none, 0), ARGUMENT);
+        dueThrow(lines + ": sample(" + cell + ", 1, " + none + ")", () -> x.sample(cell, 1, none), ARGUMENT);
+        if (cuts > 0) {
+            dueThrow(lines + ": cut(0, " + none + ")", () -> x.cut(0, none), ARGUMENT);
+        }
+        dueThrow(lines + ": at(0, 0, 0, 1)", () -> x.at(0, 0, 0, 1), ARGUMENT);
+        dueThrow(lines + ": at(0, 1, 101, 1)", () -> x.at(0, 1, 101, 1), ARGUMENT);
     }
 
     private static void compareCells(Plane x, List<Line> lines, List<Cell> cells, List<int[]> signs) {
@@ -292,11 +330,49 @@ public final class OracleTest extends Checks {
         }
     }
 
+    /** A line comes or goes, or is refused because there are six or none; all is compared behind each step. */
+    private static void compareWalk(int steps, int far) {
+        Plane x = new Plane();
+        List<Line> lines = new ArrayList<>();
+        for (int k = 0; k < steps; k++) {
+            // Mostly upwards in one half of the walk and downwards in the other, so that both ends are reached.
+            boolean comes = number(0, 3) != 0 ^ k % 20 >= 10;
+            if (comes) {
+                stepUp(x, lines, anyLine(far));
+            } else {
+                stepDown(x, lines, number(0, 5));
+            }
+            compare(x, lines, k % 10 == 0);
+        }
+    }
+
+    private static void stepUp(Plane x, List<Line> lines, Line line) {
+        if (lines.size() == 6) {
+            dueThrow(lines + ": line" + line, () -> x.line(line.a, line.b, line.c), STATE);
+            dueThrow(lines + ": line(0, 0, 0)", () -> x.line(0, 0, 0), ARGUMENT);
+        } else {
+            due(lines, "line" + line, x.line(line.a, line.b, line.c), lines.size());
+            lines.add(line);
+        }
+    }
+
+    private static void stepDown(Plane x, List<Line> lines, int gone) {
+        if (gone >= lines.size()) {
+            dueThrow(lines + ": drop(" + gone + ")", () -> dropped(x, gone), INDEX);
+        } else {
+            x.drop(gone);
+            lines.remove(gone);
+        }
+    }
+
     public static void main(String[] args) {
         for (int k = 0; k < 350; k++) {
             // Small numbers make parallels, uprights, equal lines and points over each other common.
             int far = k % 3 == 0 ? 1 : k % 3 == 1 ? 2 : 6;
             compareSet(k % 7, far, k % 5 == 0);
+        }
+        for (int k = 0; k < 6; k++) {
+            compareWalk(100, k % 3 == 0 ? 1 : k % 3 == 1 ? 2 : 6);
         }
         end();
     }
